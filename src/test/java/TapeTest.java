@@ -254,6 +254,10 @@ public final class TapeTest {
         badRule("", 0, 0);
         badRule("act", 3, 0);
         badRule("acts 1", 0, 0);
+        badRule("actz 1", 0, 0);
+        badRule("act 1{", 5, 0);
+        badRule("act 1`", 5, 0);
+        badRule("act 1:", 5, 0);
         badRule("row 2 2", 0, 0);
         badRule("act x", 4, 0);
         badRule("act 1;", 6, 0);

@@ -51,6 +51,8 @@ public final class WayTest {
         // 2 can't be right, but is done into 4 first, so that no two are open in a row.
         DUE.is("another one is done for the law", 5, Due.worn("row 3 5;sewn 2;in 0 0;in 1 3;beside 1").soonest());
         DUE.is("without the law", 3, Due.worn("row 3 5;sewn 2;in 0 0;in 1 3").soonest());
+        // 1 can't be right and may never be open: a goal is where it is in.
+        DUE.is("a goal with another one in", 2, Due.worn("row 2 3;sewn 1;in 1 2;never 1").soonest());
         DUE.is("not lawful ahead", 4, Due.worn("row 2 2;beside 1").soonest());
     }
 
@@ -112,6 +114,11 @@ public final class WayTest {
         DUE.is("worth", 0, y.floor(9, 0));
         DUE.is("least shown", 0, y.floor(9, 1));
         DUE.is("seconds", 2, y.floor(9, 2));
+        // 0 and 1 may not be open with 2: by 6 one goes right behind the other.
+        WrongHole z = Due.worn("row 3 3;in 0 1;in 1 2;beside 2;worth 1 9");
+        DUE.is("with beside 2", 1, z.floor(5, 0));
+        DUE.is("with beside 2", 10, z.floor(6, 0));
+        DUE.is("without", 9, Due.worn("row 3 3;in 0 1;in 1 2;worth 1 9").floor(5, 0));
         DUE.is("laws hold", 0, Due.worn("row 2 2;in 0 1;never 0;eye 0 1 0").floor(300, 0));
     }
 
@@ -186,6 +193,14 @@ public final class WayTest {
         DUE.is("x", 5, x.count(10));
         DUE.is("taken back", 1, x.count(5));
         DUE.is("wrong", 3, x.row(1));
+        // What can be is kept for a row and a clock: another row at the same second has its own.
+        x.takeBack();
+        x.unfasten(0);
+        DUE.is("floor with 0 undone", 1, x.floor(2, 0));
+        x.takeBack();
+        x.unfasten(1);
+        DUE.is("floor with 1 undone", 0, x.floor(2, 0));
+        x.takeBack();
         // Ways are kept for a lift: another one has its own.
         DUE.is("soonest", 11, x.soonest());
         Due.lift(x, "row 2 2;do 1 7");
@@ -193,6 +208,9 @@ public final class WayTest {
         Due.lift(x, "row 8 8");
         DUE.is("soonest of a greater one", 16, x.soonest());
         DUE.is("floor of a greater one", 5, x.floor(10, 0));
+        Due.lift(x, "row 8 3");
+        DUE.is("soonest with other holes", 6, x.soonest());
+        DUE.is("floor with other holes", 3, x.floor(10, 0));
         Due.lift(x, "row 1 1");
         DUE.is("soonest of a less one", 2, x.soonest());
         DUE.is("floor of a less one", 1, x.floor(10, 0));
