@@ -1,4 +1,5 @@
 import java.nio.charset.StandardCharsets;
+import java.util.List;
 
 /** Counts answers that are due and prints those that are not given. */
 final class Due {
@@ -12,6 +13,18 @@ final class Due {
         }
         failed++;
         System.out.println(call + " answered " + got + ", due is " + want);
+    }
+
+    /** Rows of answers, of which the first that differs is told. */
+    void same(String call, List<String> want, List<String> got) {
+        for (int i = 0; i < want.size() && i < got.size(); i++) {
+            if (!want.get(i).equals(got.get(i))) {
+                failed++;
+                System.out.println(call + ": " + got.get(i) + ", due is " + want.get(i));
+                return;
+            }
+        }
+        is(call + ": how many answers", want.size(), got.size());
     }
 
     /** Ends the test. */
@@ -59,7 +72,34 @@ final class Due {
         return x;
     }
 
+    /** Worn, and the clock at a second, by waits alone. */
+    static WrongHole wornAt(int second, String text) {
+        WrongHole x = worn(text);
+        for (int left = second; left > 0; left -= 999) {
+            x.waits(Math.min(left, 999));
+        }
+        return x;
+    }
+
     static int fault(int place, int kind) {
         return -2 - (1 + 8 * place + kind);
+    }
+
+    /** A ^ stands ahead of the place where the lift's fault is due. */
+    void liftFault(int kind, String marked) {
+        is("lift of " + marked, fault(marked.indexOf('^'), kind), lift(new WrongHole(), marked.replace("^", "")));
+    }
+
+    void liftIs(int buttons, String text) {
+        is("lift of " + text, buttons, lift(new WrongHole(), text));
+    }
+
+    /** A ^ stands ahead of the place where the rule's fault is due. */
+    void ruleFault(int kind, String marked) {
+        is("rule of " + marked, fault(marked.indexOf('^'), kind), rule(new WrongHole(), marked.replace("^", "")));
+    }
+
+    void ruleIsTaken(String text) {
+        is("rule of " + text, 0, rule(new WrongHole(), text));
     }
 }
